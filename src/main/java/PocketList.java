@@ -30,7 +30,7 @@ public final class PocketList {
 
     public PocketList(int strikesWin) {
         this.strikesWin = strikesWin != 0;
-        this.picture = new Picture(log, this.strikesWin);
+        this.picture = new Picture(this.strikesWin);
     }
 
     public int device(int from) {
@@ -95,7 +95,7 @@ public final class PocketList {
         if (device == null || thing == behind) {
             return false;
         }
-        picture.draw(device.known());
+        picture.draw(log, device.known());
         if (behind != NONE && picture.find(behind) == null) {
             return false;
         }
@@ -201,7 +201,7 @@ public final class PocketList {
         if (device == null) {
             return false;
         }
-        picture.draw(device.known());
+        picture.draw(log, device.known());
         Thing found = picture.find(thing);
         if (found == null || found.isStruck != (sort == BACK)) {
             return false;
@@ -223,7 +223,7 @@ public final class PocketList {
             return false;
         }
         Deed deed = log.find(viewDevice, viewN);
-        picture.draw(deed == null ? device.known() : deed.knew);
+        picture.draw(log, deed == null ? device.known() : deed.knew);
         return true;
     }
 
@@ -529,7 +529,6 @@ public final class PocketList {
      * and it is drawn anew only when another set is asked for.
      */
     private static final class Picture {
-        final Log log;
         final boolean strikesWin;
         final int[] drawn = new int[DEVICES];
         final boolean[] undone = new boolean[DEEDS_ALL];
@@ -545,18 +544,17 @@ public final class PocketList {
         final Row[] rows = new Row[DEEDS_ALL];
         int rowCount = 0;
 
-        Picture(Log log, boolean strikesWin) {
-            this.log = log;
+        Picture(boolean strikesWin) {
             this.strikesWin = strikesWin;
         }
 
-        void draw(int[] known) {
+        void draw(Log log, int[] known) {
             if (isDrawn(known)) {
                 return;
             }
             System.arraycopy(known, 0, drawn, 0, DEVICES);
-            markUndone();
-            pickLooked();
+            markUndone(log);
+            pickLooked(log);
             layThings();
             judgeStrikes();
             chooseKeepers();
@@ -584,7 +582,7 @@ public final class PocketList {
             return deed.n < drawn[deed.device];
         }
 
-        private void markUndone() {
+        private void markUndone(Log log) {
             for (int i = 0; i < DEEDS_ALL; i++) {
                 undone[i] = false;
             }
@@ -596,7 +594,7 @@ public final class PocketList {
             }
         }
 
-        private void pickLooked() {
+        private void pickLooked(Log log) {
             lookedCount = 0;
             for (int i = 0; i < log.size; i++) {
                 Deed deed = log.line[i];
