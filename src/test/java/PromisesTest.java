@@ -325,11 +325,10 @@ public final class PromisesTest {
         x.put(0, 3, 1);
         x.meet(0, 1);
         yes("move(1, 0, 2)", x.move(1, 0, 2));
-        yes("move(1, 1, 2)", x.move(1, 1, 2));
         x.meet(0, 1);
-        dueLine(x, 2, 1, 0);
+        dueLine(x, 1, 2, 0);
         due("undo(0), of the put of 2", 2, x.undo(0));
-        dueLine(x, 0, 1);
+        dueLine(x, 1, 0);
     }
 
     private static void movesApart() {
@@ -602,6 +601,9 @@ public final class PromisesTest {
         due("knows(2, 1, 0, 1)", 2, x.knows(2, 1, 0, 1));
         due("knows(2, 1, 1, 1)", 3, x.knows(2, 1, 1, 1));
         due("knows(0, 1, 2, 1), 0 wasn't there", 0, x.knows(0, 1, 2, 1));
+        x.meet(0, 2);
+        due("knows(0, 1, 1, 1), told by 2", 3, x.knows(0, 1, 1, 1));
+        due("knows(0, 1, 2, 1)", 3, x.knows(0, 1, 2, 1));
         x.put(0, 5, 1);
         due("knows(0, 0, 0, 1), of itself, too", 2, x.knows(0, 0, 0, 1));
         for (int[] w : new int[][] {{3, 0, 0, 0}, {0, 3, 0, 0}, {0, 0, 3, 1}, {0, 0, 1, 2}, {0, 0, 1, -1},
